@@ -456,35 +456,19 @@ public final class RepairSender {
       }
     }
 
-    /** Leaves 1 on the diagonal and 0 beside it: the last column then holds the coefficients. */
+    /**
+     * Leaves 1 on the diagonal and 0 beside it: the last column then holds the coefficients. No
+     * rows need to be swapped: the first rows and as many columns are the equations of those
+     * points alone, which have one solution as the places differ, so no divisor here is 0.
+     */
     private void solve() {
       for (int column = 0; column < count; column++) {
-        swapRows(column, pivotRow(column));
         scaleRow(column, Field.inverse(cells[column][column]));
         for (int row = 0; row < count; row++) {
           if (row != column) {
             addMultiple(row, column, cells[row][column]);
           }
         }
-      }
-    }
-
-    /** There is always such a row: the places differ, so the equations are independent. */
-    private int pivotRow(int column) {
-      int found = column;
-      for (int row = count - 1; row >= column; row--) {
-        if (cells[row][column] != 0) {
-          found = row;
-        }
-      }
-      return found;
-    }
-
-    private void swapRows(int one, int other) {
-      for (int column = 0; column <= count; column++) {
-        int kept = cells[one][column];
-        cells[one][column] = cells[other][column];
-        cells[other][column] = kept;
       }
     }
 

@@ -652,15 +652,34 @@ public final class PromiseTest {
     Checks.refused(sender, "dropped", Checks.STATE, () -> way.answer(sender, 1, 0));
   }
 
+  /** Nothing of the block before may stay in the rebuilding of the next. */
+  private static void rebuildsBlockBehindBlock(Rebuilding way) {
+    RepairSender sender = new RepairSender();
+    for (int block = 0; block < 16; block++) {
+      int k = block % 2 == 0 ? 8 : 1 + block / 2;
+      sender.begin(k, 3);
+      for (int place = 0; place < k; place++) {
+        sender.setDatum(place, DATA[place] ^ block);
+      }
+      sender.join(0, 0);
+      sender.send(16);
+      for (int place = 0; place < k; place++) {
+        Checks.due("block " + block, DATA[place] ^ block, way.answer(sender, 0, place));
+      }
+    }
+  }
+
   private static void promise19Rebuilt() {
     Checks.part("promise 19");
     rebuildsAll(RepairSender::rebuilt);
+    rebuildsBlockBehindBlock(RepairSender::rebuilt);
     refusesRebuilding(RepairSender::rebuilt);
   }
 
   private static void promise20RebuiltByElimination() {
     Checks.part("promise 20");
     rebuildsAll(RepairSender::rebuiltByElimination);
+    rebuildsBlockBehindBlock(RepairSender::rebuiltByElimination);
     refusesRebuilding(RepairSender::rebuiltByElimination);
   }
 }
