@@ -30,6 +30,14 @@ final class Checks {
     due(what, want ? 1 : 0, got ? 1 : 0);
   }
 
+  static void same(String what, String want, String got) {
+    checked++;
+    if (!got.equals(want)) {
+      wrong++;
+      System.out.println(part + ": " + what + " answered " + got + ", due is " + want);
+    }
+  }
+
   /** The call must throw exactly this class, and the object must look the same behind it. */
   static void refused(
       RepairSender sender, String what, Class<? extends Exception> want, Call call) {
@@ -62,7 +70,8 @@ final class Checks {
     for (int packet = 0; packet < 16; packet++) {
       all.append(' ').append(sender.packet(packet));
     }
-    for (int receiver = 0; receiver < sender.receivers(); receiver++) {
+    int receivers = sender.receivers();
+    for (int receiver = 0; receiver < receivers; receiver++) {
       all.append(" | ").append(sender.has(receiver)).append(' ').append(sender.need(receiver));
       all.append(' ').append(sender.isDropped(receiver));
       all.append(' ').append(sender.badRounds(receiver));

