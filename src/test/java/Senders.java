@@ -14,7 +14,7 @@ final class Senders {
     return sender;
   }
 
-  /** A block of 8 data, 8 packets sent, and a receiver for each need, 0 to 8, that loses no more. */
+  /** A block of 8 data, 8 packets sent, and a receiver for each need; they lose no more. */
   static RepairSender needing(int patience, int[] needs, int[] waits) {
     RepairSender sender = new RepairSender();
     sender.begin(8, patience);
