@@ -1,7 +1,4 @@
-/**
- * Each promise of the document by itself: ordinary inputs, the named edges, wrong inputs. The two
- * tests of the limits alone go beyond 512 calls on one object.
- */
+/** Each promise of the document by itself: ordinary inputs, the named edges, wrong inputs. */
 public final class PromiseTest {
   private static final int LOSES_ALL = Senders.LOSES_ALL;
   private static final int[] WRONG_INDEXES = {-1, Integer.MIN_VALUE, Integer.MAX_VALUE};
@@ -18,10 +15,10 @@ public final class PromiseTest {
     promise6SetWait();
     promise7Send();
     promise7SendOrderAndLosses();
-    promise7SendLimit();
+    promise7SendIsNeverTooMuch();
     promise8RoundRepairs();
     promise8RoundDrops();
-    promise8RoundLimit();
+    promise8RoundIsNeverTooMuch();
     promise9Sent();
     promise10Receivers();
     promise11Reports();
@@ -251,21 +248,20 @@ public final class PromiseTest {
     }
   }
 
-  /** Only more calls than an object is used for reach the limit, so it is seen beyond them. */
-  private static void promise7SendLimit() {
+  /**
+   * Within its 512 calls an object sends 8192 packets at most, so the limit of 10000 is never met:
+   * no sending may be refused for the state.
+   */
+  private static void promise7SendIsNeverTooMuch() {
     Checks.part("promise 7");
-    RepairSender sender = Senders.begun(20, 1);
-    for (int call = 0; call < 624; call++) {
-      sender.send(16);
+    RepairSender sender = new RepairSender();
+    sender.begin(1, 20);
+    for (int call = 2; call <= 509; call++) {
+      Checks.due("call " + call, 0, sender.send(16));
     }
-    sender.send(1);
-    Checks.refused(sender, "10001 in all", Checks.STATE, () -> sender.send(16));
-    Checks.refused(sender, "many goes first", Checks.ARGUMENT, () -> sender.send(17));
-    sender.send(15);
-    Checks.due("just 10000", 10000, sender.sent());
-    Checks.refused(sender, "one more", Checks.STATE, () -> sender.send(1));
-    Checks.due("returned by begin", 10000, sender.begin(4, 3));
-    Checks.due("and from 0 on again", 0, sender.send(16));
+    Checks.due("late", 0, sender.join(0, 0));
+    Checks.due("the last sending", 1, sender.send(16));
+    Checks.due("call 512", 509 * 16, sender.sent());
   }
 
   private static void promise8RoundRepairs() {
@@ -309,24 +305,19 @@ public final class PromiseTest {
     Checks.due("nor keeps anything back", 0, sender.keptBack());
   }
 
-  /** Only more calls than an object is used for reach the limit, so it is seen beyond them. */
-  private static void promise8RoundLimit() {
+  /** Nor are there 9993 packets within 512 calls: no round may be refused. */
+  private static void promise8RoundIsNeverTooMuch() {
     Checks.part("promise 8");
-    RepairSender sender = Senders.begun(20, 1, 2, 3, 4, 5, 6, 7, 8);
-    for (int call = 0; call < 624; call++) {
+    RepairSender sender = new RepairSender();
+    sender.begin(8, 20);
+    for (int call = 2; call <= 507; call++) {
       sender.send(16);
     }
-    sender.send(8);
-    sender.join(LOSES_ALL, 0);
-    Checks.due("behind 9992", 8, sender.round());
-    Checks.due("10000 are sent", 10000, sender.sent());
-    Checks.refused(sender, "a further round", Checks.STATE, sender::round);
-    sender.begin(1, 1);
-    for (int call = 0; call < 624; call++) {
-      sender.send(16);
-    }
-    sender.send(9);
-    Checks.refused(sender, "behind 9993, though nothing lacks", Checks.STATE, sender::round);
+    Checks.due("nobody lacks anything", 0, sender.round());
+    Checks.due("late", 0, sender.join(LOSES_ALL, 0));
+    Checks.due("one lacks all", 8, sender.round());
+    Checks.due("and again", 8, sender.round());
+    Checks.due("call 512", 506 * 16 + 16, sender.sent());
   }
 
   private static void promise9Sent() {
